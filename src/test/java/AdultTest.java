@@ -21,6 +21,11 @@ final class AdultTest {
         Checks.no("longer", b.word("a").x.isAdult(0));
         Checks.no("shorter", b.word("abb").x.isAdult(0));
         Checks.no("too long to hold", b.word("a".repeat(60)).x.isAdult(0));
+        b.list(1, 'c', "c", "cc").list(1, 'd', "d", "");
+        Checks.no("a production begins as the letter", b.word("c").x.isAdult(1));
+        Checks.no("a production is shorter", b.word("d").x.isAdult(1));
+        b.list(2, 'a', "fe", "ff").list(2, 'a', "a", "a");
+        Checks.yes("nothing is left of a longer production", b.word("a").x.isAdult(2));
         b.list(1, 'e', "e", "e", "f");
         Checks.no("the third production counts", b.word("e").x.isAdult(1));
         for (int wrong : new int[] {-1, 3, Integer.MIN_VALUE, Integer.MAX_VALUE}) {
@@ -89,6 +94,9 @@ final class AdultTest {
         for (int wrong : new int[] {-1, 5, Integer.MIN_VALUE, Integer.MAX_VALUE}) {
             Checks.throwing("length " + wrong, Bench.ARGUMENT, () -> b.x.adultWords(0, wrong));
         }
+        b.list(2, 'a', "aa").word("ab");
+        Checks.throwing("a walk before the next count", Bench.MISSING, () -> b.x.stepsToAdult(2, 2));
+        Checks.same("all words of 2 without a", b.x.adultWords(2, 2), 25);
         b.word("cab").x.adultWords(1, 4);
         Checks.same("the word stays", b.current(), "cab");
     }

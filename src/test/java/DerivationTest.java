@@ -83,6 +83,11 @@ final class DerivationTest {
             Checks.throwing("count " + wrong, Bench.ARGUMENT, () -> b.x.sequenceCount(wrong));
             Checks.throwing("first " + wrong, Bench.ARGUMENT, () -> b.x.firstSequence(wrong));
         }
+        for (int table = 0; table < 3; table++) {
+            Bench one = new Bench().list(table, 'a', "a", "a");
+            Checks.throwing("choices in table " + table, Bench.STATE, () -> one.x.sequenceCount(1));
+            Checks.throwing("choices in table " + table, Bench.STATE, () -> one.x.firstSequence(1));
+        }
         for (int steps = 0; steps <= 5; steps++) {
             int n = steps;
             Checks.throwing("count of a table with choices", Bench.STATE, () -> b.x.sequenceCount(n));

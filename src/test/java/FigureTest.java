@@ -76,6 +76,8 @@ final class FigureTest {
         dueExtents(b.word("acaacaaaca"), -2, 1, 0, 2);
         dueExtents(b.word("ebcbf" + "cca"), -1, 0.5, 0, 0.5);
         dueExtents(b.word("dbbebebf"), 0, 0, -2.75, 0);
+        dueExtents(b.word("cbebcbecbfbdfb"), -1, 0, 0, 2);
+        dueExtents(b.word("ddbecbfbb"), -3, 0.0, -0.5, 0);
         for (int side : new int[] {-1, 4, Integer.MIN_VALUE, Integer.MAX_VALUE}) {
             Checks.throwing("side " + side, Bench.ARGUMENT, () -> b.x.extent(side));
         }
@@ -97,6 +99,7 @@ final class FigureTest {
         Checks.same("one in the other", b.word("eeffef").x.openDepth(), 2);
         Checks.same("not closed", b.word("eee").x.openDepth(), 3);
         Checks.same("twenty", b.word("e".repeat(20) + "f".repeat(20)).x.openDepth(), 20);
+        Checks.same("less than the figure before", b.word("aef").x.openDepth(), 1);
     }
 
     private static void noFigure() {

@@ -88,6 +88,10 @@ final class GrowthTest {
         Bench side = new Bench().list(0, 'a', "b").list(0, 'b', "ac").list(0, 'c', "d").list(0, 'd', "e")
                 .list(0, 'e', "ef").list(0, 'f', "");
         Checks.same("cycles with letters between", side.word("a").x.growthDegree(0), 1);
+        Bench upward = new Bench().list(0, 'a', "c").list(0, 'c', "ab").list(0, 'b', "e").list(0, 'e', "bd");
+        Checks.same("cycles of two, towards later letters", upward.word("c").x.growthDegree(0), 2);
+        Bench through = new Bench().list(0, 'f', "a").list(0, 'a', "e").list(0, 'e', "fd");
+        Checks.same("a cycle through a", through.word("e").x.growthDegree(0), 1);
         Bench exponential = new Bench().list(0, 'a', "ba").list(0, 'b', "bb").word("a");
         Checks.throwing("no degree", Bench.ARITHMETIC, () -> exponential.x.growthDegree(0));
     }

@@ -33,6 +33,9 @@ final class RecurrenceTest {
     }
 
     private static void highestOrder() {
+        Bench first = new Bench().list(0, 'a', "ab").word("a");
+        Checks.same("a number before any order", first.x.recurrenceCoefficient(0, 1), 2);
+        Checks.same("a number after another word", first.word("b").x.recurrenceCoefficient(0, 1), 1);
         Bench ring = new Bench().list(0, 'a', "b").list(0, 'b', "c").list(0, 'c', "d").list(0, 'd', "e")
                 .list(0, 'e', "f").list(0, 'f', "aa");
         due("a ring of six that doubles", ring.word("a"), 0, 0, 0, 0, 0, 0, 2);

@@ -2,6 +2,7 @@
 final class SaveTest {
     public static void main(String[] args) {
         savesAll();
+        savesLettersAndRules();
         keepsWhatIsNotSaved();
         savesAgain();
         refuses();
@@ -30,6 +31,23 @@ final class SaveTest {
             Checks.same("step of table 2", b.current(), "a");
             b.list(2, 'f', "fff").target("").command('a', "close");
         }
+    }
+
+    private static void savesLettersAndRules() {
+        Bench b = new Bench().list(0, 'a', "fe").rule(0, 'f', 'f', "ab").both("aff", "bbfdd");
+        b.x.save();
+        b.list(0, 'a', "bb").rule(0, 'f', 'f', "dd");
+        for (char letter = 'a'; letter <= 'e'; letter++) {
+            b.rule(0, 'a', letter, "");
+        }
+        b.x.restore();
+        Checks.same("letters of productions and rules", b.x.ways(0), 0L);
+        Checks.same("letters of the same", b.target("fefab").x.ways(0), 1L);
+        for (char letter = 'a'; letter <= 'e'; letter++) {
+            b.rule(0, 'b', letter, "");
+        }
+        b.text("");
+        Checks.throwing("six rules again", Bench.STATE, () -> b.x.setContextRule(0, 0, 0));
     }
 
     private static void keepsWhatIsNotSaved() {

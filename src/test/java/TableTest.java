@@ -52,6 +52,9 @@ final class TableTest {
         Checks.same("the text stays", b.x.clearText(), 2);
         b.word("aa").x.step(0, 99);
         Checks.same("step with a replaced list", b.current(), "eeee");
+        Bench full = new Bench().list(0, 'b', "fedc").list(0, 'a', "abcd", "bcde", "cdef");
+        full.text("ffff").x.setProduction(0, 0);
+        Checks.same("a production leaves the next ones alone", full.both("bbb", "fedcfedcfedc").x.ways(0), 1L);
     }
 
     private static void addsProductions() {
@@ -110,6 +113,9 @@ final class TableTest {
         Checks.no("table 2 plain", b.x.isPlain(2));
         b.text("ff").x.setProduction(1, 5);
         Checks.yes("table 1 deterministic again", b.x.isDeterministic(1));
+        for (char letter = 'a'; letter <= 'f'; letter++) {
+            Checks.no("choices for " + letter, new Bench().list(0, letter, "a", "a", "a").x.isDeterministic(0));
+        }
     }
 
     private static void refusesWrongTablesAndLetters() {
