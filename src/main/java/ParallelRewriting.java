@@ -714,6 +714,7 @@ public final class ParallelRewriting {
             current = new Word();
             target = new Word();
             commands = new int[LETTERS];
+            Arrays.fill(commands, SKIP);
         }
 
         void copy(State other) {

@@ -3,6 +3,7 @@ final class DerivationTest {
     public static void main(String[] args) {
         ways();
         manyWays();
+        mostWays();
         sequences();
         longWordsOnTheWay();
         refusals();
@@ -41,6 +42,22 @@ final class DerivationTest {
         b.list(1, 'a', "", "c", "cc");
         Checks.same("the only way to sixty letters", b.both("a".repeat(30), "c".repeat(60)).x.ways(1), 1L);
         Checks.throwing("the middle trinomial coefficient", Bench.ARITHMETIC, () -> b.both("a".repeat(50), "c".repeat(50)).x.ways(1));
+    }
+
+    /** The letter e stands between four parts, whose ways multiply to 2^63 - 1. */
+    private static void mostWays() {
+        Bench b = new Bench().list(0, 'a', "", "ffff").list(0, 'b', "", "f", "ff").list(0, 'c', "", "", "f")
+                .list(0, 'd', "", "f", "fff").list(0, 'f', "", "ff", "fff");
+        String[] words = {"abb" + "c".repeat(9) + "ddf", "b".repeat(7) + "cdfffff", "aabcccccdddffff", "ccdddddffff"};
+        String[] targets = {"f".repeat(15), "f".repeat(24), "f".repeat(7), "f".repeat(7)};
+        long[] parts = {649657, 92737, 42799, 3577};
+        for (int i = 0; i < 4; i++) {
+            Checks.same("ways of part " + i, b.both(words[i], targets[i]).x.ways(0), parts[i]);
+        }
+        b.both(String.join("e", words), String.join("e", targets));
+        Checks.same("as many as can be said", b.x.ways(0), Long.MAX_VALUE);
+        b.both(String.join("e", words) + "c", String.join("e", targets));
+        Checks.throwing("and more", Bench.ARITHMETIC, () -> b.x.ways(0));
     }
 
     private static void sequences() {
