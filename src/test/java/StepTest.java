@@ -108,6 +108,17 @@ final class StepTest {
         b.x.step(0, 0);
         Checks.yes("a new step can be undone", b.x.undo());
         Checks.no("but none before", b.x.undo());
+        Bench mixed = new Bench().list(0, 'a', "ab").word("a");
+        for (int i = 1; i <= 10; i++) {
+            mixed.x.step(0, 0);
+        }
+        Checks.yes("three undone", mixed.x.undo() && mixed.x.undo() && mixed.x.undo());
+        mixed.x.step(0, 0);
+        for (int i = 7; i >= 2; i--) {
+            Checks.yes("undo to " + i + " again", mixed.x.undo());
+            Checks.same("word " + i + " again", mixed.current(), "a" + "b".repeat(i));
+        }
+        Checks.no("the two that gave way do not come back", mixed.x.undo());
     }
 
     private static void forgetsSteps() {
