@@ -1,3 +1,6 @@
+import java.util.ArrayList;
+import java.util.List;
+
 /** Puts whole words into a workbench, whose face takes them a character at a time. */
 final class Bench {
     static final Class<IndexOutOfBoundsException> INDEX = IndexOutOfBoundsException.class;
@@ -7,6 +10,9 @@ final class Bench {
     static final Class<java.util.NoSuchElementException> MISSING = java.util.NoSuchElementException.class;
 
     final ParallelRewriting x = new ParallelRewriting();
+
+    /** The words that were the target, for a look at which one it is. */
+    final List<String> targets = new ArrayList<>();
 
     Bench text(String text) {
         x.clearText();
@@ -23,6 +29,7 @@ final class Bench {
 
     Bench target(String word) {
         text(word).x.setTarget();
+        targets.add(word);
         return this;
     }
 
@@ -57,7 +64,8 @@ final class Bench {
 
     String current() {
         StringBuilder word = new StringBuilder();
-        for (int i = 0; i < x.wordLength(); i++) {
+        int length = x.wordLength();
+        for (int i = 0; i < length; i++) {
             word.append((char) ('a' + x.wordLetter(i)));
         }
         return word.toString();
