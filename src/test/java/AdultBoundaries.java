@@ -28,6 +28,8 @@ final class AdultBoundaries {
                 .x.isAdult(0))
             .yes("letters that vanish and letters that make them", new Bench().list(0, 'a', "ab").list(0, 'b', "")
                 .word("ab".repeat(30)).x.isAdult(0))
+            .yes("equal productions in place of longer ones", new Bench().list(0, 'a', "af", "ae").list(0, 'a', "a", "a")
+                .word("a").x.isAdult(0))
             .yes("three equal productions", new Bench().list(0, 'a', "a", "a", "a").word("a".repeat(60)).x.isAdult(0))
             .no("the third production is another", new Bench().list(0, 'a', "a", "a", "b").word("a").x.isAdult(0))
             .no("the second production is longer", new Bench().list(0, 'a', "a", "aa").word("a").x.isAdult(0))
@@ -135,5 +137,9 @@ final class AdultBoundaries {
         four.list(0, 'a', "bacd");
         counts.same("one letter that makes four: bacd alone", four.x.adultWords(0, 4), 1);
         counts.same("and none of three", four.x.adultWords(0, 3), 0);
+        four.word("abcd").x.stepsToAdult(0, 50);
+        counts.same("the empty word after steps of another", four.x.adultWords(0, 0), 1);
+        four.x.stepsToAdult(0, 50);
+        counts.same("none of three after steps of another", four.x.adultWords(0, 3), 0);
     }
 }

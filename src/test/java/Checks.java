@@ -31,7 +31,8 @@ final class Checks {
         try {
             return body.call();
         } catch (Exception thrown) {
-            return thrown.getClass().getSimpleName();
+            boolean machine = "/ by zero".equals(thrown.getMessage());
+            return (machine ? "the machine's " : "") + thrown.getClass().getSimpleName();
         }
     }
 

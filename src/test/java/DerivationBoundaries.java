@@ -56,12 +56,33 @@ final class DerivationBoundaries {
         most.same("3^60 that do not reach the target", three.with(b -> b.target("a")).make().x.ways(1), 0L);
         most.same("3^59 to the beginning of the target", three.with(b -> b.list(1, 'b', "b", "c").both("a".repeat(59) + "b", "d"))
             .make().x.ways(1), 0L);
+        // 59 letters a make 16 letters f in fewer than 2^63 ways, and 17 in more; the last letter adds the two
+        String[][] lists = {{"", "f"}, {"f", ""}};
+        for (String[] last : lists) {
+            Scene sum = BUSY.with(b -> b.list(1, 'a', "", "f", "f").list(1, 'c', last).both("a".repeat(59) + "c", "f".repeat(17)));
+            most.refused("a number that is too great and one that is not", sum, Bench.ARITHMETIC, x -> x.ways(1));
+        }
+        Scene sixteen = BUSY.with(b -> b.list(1, 'a', "", "f", "f").both("a".repeat(59), "f".repeat(16)));
+        most.same("16 letters f", sixteen.make().x.ways(1), binomial(59, 16) << 16);
+        Bench after = three.make();
+        most.same("too many ways", Checks.answerOf(() -> after.x.ways(1)), "ArithmeticException");
+        most.same("then none of them", after.both("b", "").x.ways(1), 0L);
+        most.same("then one", after.both("a", "a").list(1, 'a', "a").x.ways(1), 1L);
+        most.same("then none from the empty word", after.word("").x.ways(1), 0L);
         // four parts, kept apart by e, whose ways multiply to 2^63 - 1
         Scene max = Scene.fresh().with(b -> b.list(0, 'a', "", "ffff").list(0, 'b', "", "f", "ff").list(0, 'c', "", "", "f")
             .list(0, 'd', "", "f", "fff").list(0, 'f', "", "ff", "fff")
             .both("abb" + "c".repeat(9) + "ddf" + "e" + "b".repeat(7) + "cdfffff" + "e" + "aabcccccdddffff" + "e" + "ccdddddffff",
                 "f".repeat(15) + "e" + "f".repeat(24) + "e" + "f".repeat(7) + "e" + "f".repeat(7)));
         most.same("Long.MAX_VALUE", max.make().x.ways(0), Long.MAX_VALUE);
+    }
+
+    private static long binomial(int n, int k) {
+        long product = 1;
+        for (int i = 1; i <= k; i++) {
+            product = product * (n - k + i) / i;
+        }
+        return product;
     }
 
     /** Table 0 leaves all as it is, 1 makes b of a, and 2 makes a of b. */
@@ -100,12 +121,19 @@ final class DerivationBoundaries {
             .same("none", turning("a", "c").make().x.sequenceCount(5), 0)
             .same("all, from the empty word", new Bench().x.sequenceCount(5), 243)
             .same("one step", turning("a", "b").make().x.sequenceCount(1), 1)
-            .same("two steps: 01 10 11 21", turning("a", "b").make().x.sequenceCount(2), 4);
+            .same("two steps: 01 10 11 21", turning("a", "b").make().x.sequenceCount(2), 4)
+            .same("all, asked twice", askedTwice(), 243);
         Sentence.of(28, "Returns how many sequences of tables lead from the current word to the target word by one step with each "
                 + "table of the sequence, one after the other.")
             .same("the target on the way does not count", turning("b", "b").with(b -> b.list(0, 'b', "c").list(1, 'b', "c"))
                 .make().x.sequenceCount(1), 0)
             .same("no step", turning("b", "b").make().x.sequenceCount(0), 1);
+    }
+
+    private static int askedTwice() {
+        Bench b = new Bench();
+        b.x.sequenceCount(5);
+        return b.x.sequenceCount(5);
     }
 
     /** Table 0 makes four b of each a, table 1 takes each b away, and table 2 takes each a away. */

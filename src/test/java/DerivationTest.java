@@ -39,9 +39,10 @@ final class DerivationTest {
                 () -> b.both("aa" + "b".repeat(39), "").x.ways(0));
         Checks.throwing("3^60", Bench.ARITHMETIC, () -> b.both("b".repeat(60), "").x.ways(0));
         Checks.same("3^59 ways that lead nowhere", b.both("b".repeat(59) + "c", "d").x.ways(0), 0L);
-        b.list(1, 'a', "", "c", "cc");
-        Checks.same("the only way to sixty letters", b.both("a".repeat(30), "c".repeat(60)).x.ways(1), 1L);
-        Checks.throwing("the middle trinomial coefficient", Bench.ARITHMETIC, () -> b.both("a".repeat(50), "c".repeat(50)).x.ways(1));
+        Bench other = new Bench().list(1, 'a', "", "c", "cc");
+        Checks.same("the only way to sixty letters", other.both("a".repeat(30), "c".repeat(60)).x.ways(1), 1L);
+        Checks.throwing("the middle trinomial coefficient", Bench.ARITHMETIC,
+                () -> other.both("a".repeat(50), "c".repeat(50)).x.ways(1));
     }
 
     /** The letter e stands between four parts, whose ways multiply to 2^63 - 1. */

@@ -137,6 +137,12 @@ final class FigureBoundaries {
             .same("the same end", pen("acbcca" + "b").x.segmentCount(), 2)
             .same("half of a segment", pen("accbcceaf").x.segmentCount(), 2)
             .same("the other half", pen("aeccaf").x.segmentCount(), 2)
+            .same("a square of four", pen("acacacac").x.segmentCount(), 4)
+            .same("a square twice, in one direction", pen("acacacac".repeat(2)).x.segmentCount(), 4)
+            .same("a square twice, to the right", pen("adadadad".repeat(2)).x.segmentCount(), 4)
+            .same("a square and back", pen("acacacac" + "c" + "adadada").x.segmentCount(), 4)
+            .same("one above the other", pen("accbdbda").x.segmentCount(), 2)
+            .same("one beside the other", pen("cabccbdbda").x.segmentCount(), 2)
             .same("x and y exchanged", pen("accbda").x.segmentCount(), 2)
             .same("60 times the same", pen("e".repeat(1) + "acc".repeat(19)).x.segmentCount(), 1);
     }
@@ -197,7 +203,14 @@ final class FigureBoundaries {
             .same("the most", pen("a".repeat(60)).x.inkLength(), 60.0)
             .same("the least", pen(DEEP + "a").x.inkLength(), 1.0 / (1 << 20))
             .same("a segment twice", pen("acca").x.inkLength(), 1.0)
-            .same("a half on a whole", pen("aecca").x.inkLength(), 1.5);
+            .same("a half on a whole", pen("aecca").x.inkLength(), 1.5)
+            .same("asked twice", inkTwice(), 2.0);
+    }
+
+    private static double inkTwice() {
+        Bench b = pen("aca");
+        b.x.inkLength();
+        return b.x.inkLength();
     }
 
     private static void extent() {

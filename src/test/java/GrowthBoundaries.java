@@ -170,7 +170,8 @@ final class GrowthBoundaries {
             .same("a letter of kind 3 that is reached last",
                 new Bench().list(0, 'a', "b").list(0, 'b', "c").list(0, 'c', "d").list(0, 'd', "e").list(0, 'e', "f")
                     .list(0, 'f', "ff").word("a").x.growthKind(0), 3)
-            .same("a letter in two rings, of one and of six letters", ring("af").word("a").x.growthKind(0), 3);
+            .same("a letter in two rings, of one and of six letters", ring("af").word("a").x.growthKind(0), 3)
+            .same("kinds of one object, one after the other", kindsOfOneObject(), "3 0 2 1 0");
         Sentence lowest = Sentence.of(0, "The degree of a growth of kind 2 is the lowest degree of such a polynomial.");
         for (int degree = 1; degree <= 5; degree++) {
             Bench b = tower().word("abcdef".substring(degree, degree + 1));
@@ -178,9 +179,25 @@ final class GrowthBoundaries {
         }
         lowest.same("two rings of three letters", new Bench().list(0, 'a', "b").list(0, 'b', "c").list(0, 'c', "ad")
             .list(0, 'd', "e").list(0, 'e', "f").list(0, 'f', "d").word("a").x.growthDegree(0), 1);
+        lowest.same("a ring through the first and the last letter", new Bench().list(0, 'f', "a").list(0, 'a', "e")
+            .list(0, 'e', "fd").word("e").x.growthDegree(0), 1);
+        lowest.same("a letter between two rings, the first one", new Bench().list(0, 'b', "ba").list(0, 'a', "d").word("b")
+            .x.growthDegree(0), 1);
+        lowest.same("a letter between two rings, the last one", new Bench().list(0, 'b', "bf").list(0, 'f', "d").word("b")
+            .x.growthDegree(0), 1);
         lowest.same("two ways to the same ring", new Bench().list(0, 'a', "abc").list(0, 'b', "d").list(0, 'c', "d")
             .word("a").x.growthDegree(0), 1);
         lowest.same("rings side by side", new Bench().list(0, 'a', "ac").list(0, 'b', "bc").word("ab").x.growthDegree(0), 1);
+    }
+
+    /** What an earlier call has found must not stay for a later one. */
+    private static String kindsOfOneObject() {
+        Bench b = ring("aa").word("a");
+        String kinds = b.x.growthKind(0) + " ";
+        kinds += b.list(0, 'f', "").x.growthKind(0) + " ";
+        kinds += b.list(0, 'a', "ae").list(0, 'f', "f").x.growthKind(0) + " ";
+        kinds += b.list(0, 'a', "e").x.growthKind(0) + " ";
+        return kinds + b.list(0, 'f', "").x.growthKind(0);
     }
 
     private static Bench ring(String last) {

@@ -74,7 +74,14 @@ final class RecurrenceBoundaries {
             .same("the empty word", new Bench().x.recurrenceOrder(0), 0)
             .same("the empty word in another table", new Bench().list(2, 'a', "aa").x.recurrenceOrder(2), 0)
             .same("only the first element is not 0", new Bench().list(0, 'a', "").word("a").x.recurrenceOrder(0), 1)
-            .same("a word that has become empty", emptied().x.recurrenceOrder(0), 0);
+            .same("a word that has become empty", emptied().x.recurrenceOrder(0), 0)
+            .same("the empty word behind one that grows", afterGrowth(), "1 0 1 0");
+    }
+
+    private static String afterGrowth() {
+        Bench b = new Bench().list(0, 'a', "aa").word("a");
+        String orders = b.x.recurrenceOrder(0) + " " + b.word("").x.recurrenceOrder(0);
+        return orders + " " + b.word("b").x.recurrenceOrder(0) + " " + b.word("").x.recurrenceOrder(0);
     }
 
     private static Bench emptied() {

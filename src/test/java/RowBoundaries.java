@@ -230,6 +230,9 @@ final class RowBoundaries {
             Bench tiny = kept(DEEP + "bb", 1, single);
             zero.same("two parts of 2^-20 by one", tiny.x.remainder(1, 44, 42), 0.0);
             zero.same("one part by two", tiny.x.remainder(1, 42, 44), PART);
+            Bench below = kept(DEEP + "ccbb", 1, single);
+            zero.same("minus one part by minus two", below.x.remainder(1, 46, 48), -PART);
+            zero.same("minus two parts by minus one", below.x.remainder(1, 48, 46), -0.0);
         }
     }
 }

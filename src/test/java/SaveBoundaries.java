@@ -36,7 +36,8 @@ final class SaveBoundaries {
         });
         Scene back = saved.with(busy -> {
             busy.text("fff").x.setTarget();
-            busy.word("a").list(0, 'a', "").rule(0, 'a', 'b', "").rule(1, 'f', 'f', "").command('a', "close").text("ace");
+            busy.word("a").list(0, 'a', "fd", "", "f").list(0, 'f', "").rule(0, 'a', 'b', "dd").rule(1, 'f', 'f', "");
+            busy.command('a', "close").text("ace");
             busy.x.restore();
         });
         place.same("all that can be seen after other calls and restore", back.seen(), saved.seen());
